@@ -278,6 +278,15 @@ public final class CarsTest {
         letter(x, 1, 0, 'a', 5);
         letter(x, 2, 0, 'p', 3);
         letter(x, 2, 0, 'a', 21);
+        RaceByLaps y = Due.plain(2, 2);
+        Due.aCar(y, 2000, 0);
+        Due.aCar(y, 1500, 1);
+        y.sector(0, 20000, -1);
+        y.sector(1, 20000, 0);
+        Due.is("13: both at one time", y.at(1, 0, 1), y.at(0, 0, 1));
+        letter(y, 0, 0, 'p', 1);
+        letter(y, 1, 0, 'p', 2);
+        letter(y, 1, 0, 'a', 0);
     }
 
     private static void planBox() {

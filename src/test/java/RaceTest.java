@@ -34,6 +34,9 @@ public final class RaceTest {
         x.tyre(0, 3, 0);
         x.stop(0, 1, 2, 0);
         all("16: and one of another kind", x, 0, 1, 156000, 6, 2, 2, 0, 38, 2, 2, 0, 0);
+        x.track(2, 2);
+        x.car(0, 100, 2, 0, 0, 7);
+        all("16: a new car without a set", x, 0, 2, 0, 0, 0, 0, 0, 7, -1, -1, 0, 0);
         for (int what : new int[] {-1, 11, Integer.MIN_VALUE}) Due.raises("16: another what", () -> x.of(0, what));
         for (int car : new int[] {-1, 1, Integer.MAX_VALUE}) Due.raises("16: no such car", () -> x.of(car, 0));
     }
@@ -137,6 +140,16 @@ public final class RaceTest {
         Due.is("26: fewer laps, behind", x.place(1, 0), 1);
         x.flag(1, 15000, 15001, 0);
         Due.is("3: yellow there: it is held", x.at(0, 1, 1), 26500);
+        x.track(2, 3);
+        x.tyres(1, 3, 2000);
+        x.sector(0, 5000, -1);
+        x.sector(1, 5000, 5000);
+        Due.aCar(x, 0, 0);
+        x.car(0, 200, 1, 1, 0, 200);
+        x.tyre(1, 1, 0);
+        Due.is("3: both at 20000, one a lap behind: ease 0", x.at(1, 0, 1), 20000);
+        Due.is("3: it passes", x.at(0, 1, 1), 20000);
+        Due.is("16: passed", x.of(0, 9), 1);
     }
 
     private static void offences() {
