@@ -184,14 +184,14 @@ public final class RaceByLaps {
         if (!isIndex(race.count, MOST_CARS)) {
             return NONE;
         }
-        Car fresh = race.cars[race.count];
-        fresh.forget();
-        fresh.off = off;
-        fresh.tank = tank;
-        fresh.burn = burn;
-        fresh.team = team;
-        fresh.clas = clas;
-        fresh.fuel = fuel;
+        Car told = race.cars[race.count];
+        told.forget();
+        told.off = off;
+        told.tank = tank;
+        told.burn = burn;
+        told.team = team;
+        told.clas = clas;
+        told.fuel = fuel;
         race.count++;
         race.fresh = false;
         return race.count - 1;
