@@ -482,7 +482,7 @@ public final class RaceByLaps {
     }
 
     public int option(int car, int lap, int set) {
-        if (!race.has(car) || !isWithin(lap, NONE, track.laps - 2) || !isIndex(set, MOST_SETS)) {
+        if (!race.has(car) || !isWithin(lap, NONE, track.laps - 2) || !isWithin(set, NONE, MOST_SETS - 1)) {
             return NONE;
         }
         return race.cars[car].options.push(lap, set, 0, 0);

@@ -563,7 +563,7 @@ final class Model {
     }
 
     int option(int car, int lap, int set) {
-        if (!isCar(car) || !in(lap, -1, n - 2) || !in(set, 0, 3) || cars.get(car).options.size() == 4) return NONE;
+        if (!isCar(car) || !in(lap, -1, n - 2) || !in(set, -1, 3) || cars.get(car).options.size() == 4) return NONE;
         cars.get(car).options.add(new int[] {lap, set});
         return cars.get(car).options.size();
     }

@@ -258,7 +258,7 @@ public final class ModelTest {
             }
             default -> {
                 for (int k = r(0, 8); k > 0; k--) {
-                    int who = one(2) ? c : b, lap = one(4) ? -1 : about(0, Math.max(0, m.n - 2)), set = about(0, 2);
+                    int who = one(2) ? c : b, lap = one(4) ? -1 : about(0, Math.max(0, m.n - 2)), set = about(-1, 2);
                     same("option(" + who + ", " + lap + ", " + set + ")", () -> x.option(who, lap, set), () -> m.option(who, lap, set));
                 }
                 same("settle(" + c + ", " + b + ", " + day + ")", () -> x.settle(c, b, day), () -> m.settle(c, b, day));

@@ -227,6 +227,9 @@ public final class TriedTest {
         Due.is("33: 4", x.option(0, 0, 0), -1);
         Due.is("33: each its own", x.option(1, 0, 0), 1);
         Due.is("33: all of them", x.count(9), 5);
+        Due.is("33: a stop without a change", x.option(1, 0, -1), 2);
+        Due.is("33: no stop, no set", x.option(1, -1, -1), 3);
+        Due.is("33: all of them", x.count(9), 7);
         Due.is("33: none of them is made", x.of(0, 3), 0);
     }
 
@@ -296,6 +299,13 @@ public final class TriedTest {
         Due.is("35: the row stays", x.count(7), 2);
         x.option(0, 0, 0);
         Due.is("35: a stop without a change keeps car 0 in front", x.settle(0, 1, 0), 20);
+        x.clear();
+        for (int car = 0; car < 2; car++) {
+            x.option(car, 0, 1);
+            x.option(car, 1, 1);
+        }
+        x.option(0, 0, -1);
+        Due.is("35: so does one whose set is NONE", x.settle(0, 1, 0), 20);
         Due.rule(x, "1:X", 1);
         Due.is("35: without places all are equal", x.settle(0, 1, 1), 0);
     }
