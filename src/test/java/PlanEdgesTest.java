@@ -192,16 +192,16 @@ public final class PlanEdgesTest {
         Due.aCar(x, 0, 0);
         Due.aCar(x, -1000, 1);
         x.tyre(1, 0, 0);
-        x.flag(-1, 40000, 1000000, 0);
-        x.sector(0, 20000, -1);
-        x.sector(1, 20000, -1);
+        x.flag(-1, 0, 1000000, 0);
         String[] before = {":+gb1", ":-gb1;:+", ":+gb1?", ":-gb1;", "0:-gb1;:+g"};
         for (String text : before) {
-            Due.plan(x, text, 1);
-            Due.is("13: nothing", Due.plan(x, ":.;:.", 1), 1);
-            Due.is("13: of " + text, x.at(1, 1, 0), 60500);
-            Due.is("13: no stop of " + text, x.of(1, 3), 0);
-            Due.is("13: no offence of " + text, x.of(1, 5), 0);
+            for (int time = 0; time < 3; time++) {
+                if (time < 2) Due.plan(x, text, 1);
+                Due.is("13: nothing", Due.plan(x, ":.;:.", 1), 1);
+                Due.is("13: of " + text, x.at(1, 1, 0), 60500);
+                Due.is("13: no stop of " + text, x.of(1, 3), 0);
+                Due.is("13: no offence of " + text, x.of(1, 5), 0);
+            }
         }
     }
 

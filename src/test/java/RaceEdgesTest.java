@@ -5,6 +5,8 @@ import java.util.List;
 public final class RaceEdgesTest {
     public static void main(String[] args) {
         whole();
+        theSixth();
+        runAnew();
         whoGoesOn();
         burnsNothing();
         runsDry();
@@ -53,6 +55,57 @@ public final class RaceEdgesTest {
         Due.is("29: all six", x.result(0), 6);
         Due.is("41: the last", x.row(5), 5);
         Due.raises("41: none behind it", () -> x.row(6));
+    }
+
+    /** The last CAR in front of all others: it is asked and counted as they are. */
+    private static void theSixth() {
+        RaceByLaps x = Due.plain(2, 7);
+        for (int k = 0; k < 5; k++) Due.aCar(x, 2000, k % 4);
+        Due.aCar(x, -2000, 0);
+        Due.is("3: it passes all", x.at(5, 0, 0), 19500);
+        Due.is("18: the first", x.led(0, 0), 5);
+        Due.is("18: the second", x.led(0, 1), 0);
+        Due.is("18: the last", x.led(0, 5), 4);
+        Due.is("3: it ends all laps", x.of(5, 1), 253500);
+        Due.is("3: the others are finished with their sixth", x.of(0, 2), 12);
+        Due.is("26: behind it", x.place(0, 0), 1);
+        Due.plan(x, "p=2&a=65:.;:.", 0);
+        Due.is("13: 44000, behind 37500", x.why(0, 0), 0);
+        x.flag(-1, 22000, 22001, 1);
+        Due.is("3: it has begun as many: not in front", x.at(0, 0, 1), 22000 + 24000);
+        RaceByLaps y = Due.plain(2, 2);
+        for (int k = 0; k < 6; k++) Due.aCar(y, k < 5 ? 1000 : 2000, k % 4);
+        y.sector(0, 20000, -1);
+        y.flag(-1, 1500, 1501, 0);
+        Due.is("3: the fifth", y.at(4, 0, 0), 23000);
+        Due.is("3: the sixth, asked by none", y.at(5, 0, 0), 23500);
+    }
+
+    /** What was in another race is not in the next: one that does not come so far holds up nobody there. */
+    private static void runAnew() {
+        RaceByLaps x = Due.plain(2, 1);
+        x.car(2000, 9, 1, 0, 0, 1);
+        x.tyre(0, 0, 0);
+        Due.aCar(x, 0, 1);
+        Due.aCar(x, 0, 2);
+        Due.is("3: one that is slow, and then out", x.at(0, 0, 0), 22000);
+        Due.is("3: passed by the second", x.at(1, 0, 0), 20300);
+        Due.is("3: the third is held by that", x.at(2, 0, 0), 20800);
+        Due.is("16: and passes none", x.of(2, 9), 0);
+        x.order(0, 0, 0, -1);
+        Due.is("3: it is out at once", x.at(0, 0, 0), -1);
+        Due.is("3: the second", x.at(1, 0, 0), 20300);
+        Due.is("16: passes none", x.of(1, 9), 0);
+        Due.is("3: the third is held by it as before", x.at(2, 0, 0), 20800);
+        Due.is("16: and passes none", x.of(2, 9), 0);
+        x.car(0, 9, 1, 3, 0, 7);
+        int[] due = {2, 0, 0, 0, 0, 0, 7, -1, -1, 0, 0};
+        for (int what = 0; what < 11; what++) Due.is("16: one told behind a race, of " + what, x.of(3, what), due[what]);
+        x.track(2, 1);
+        x.car(0, 9, 1, 3, 0, 8);
+        due[6] = 8;
+        for (int what = 0; what < 11; what++) Due.is("16: one of another track, of " + what, x.of(0, what), due[what]);
+        Due.is("20: no leads", x.leads(), 0);
     }
 
     /** "at the least TIME; of equal ones the one that has begun more SECTORS, then the less number". */
@@ -504,6 +557,7 @@ public final class RaceEdgesTest {
         for (int lap = 0; lap < 6; lap++) Due.is("20: they change each lap", y.led(lap, 0), lap % 2);
         Due.is("20: five changes", y.leads(), 5);
         Due.is("11: stops", stops.get(4), 3);
+        leadsAtTheEnd();
         RaceByLaps z = Due.plain(2, 4);
         z.car(0, 9, 1, 0, 0, 4);
         z.tyre(0, 0, 0);
@@ -514,5 +568,23 @@ public final class RaceEdgesTest {
         z.car(0, 9, 1, 0, 0, 1);
         z.tyre(0, 0, 0);
         Due.is("20: a lap that none ended", z.leads(), 0);
+    }
+
+    /** At the end of a LAP: who is first at a line within it does not count. */
+    private static void leadsAtTheEnd() {
+        RaceByLaps x = Due.plain(2, 3);
+        x.sector(0, 20000, -1);
+        x.sector(1, 20000, 300);
+        Due.aCar(x, 0, 0);
+        Due.aCar(x, -1500, 1);
+        Due.is("18: the first line is the first one's", x.at(0, 0, 0) < x.at(1, 0, 0), true);
+        Due.is("18: the lap is not", x.led(0, 0), 1);
+        Due.is("20: the first lap does not count", x.leads(), 0);
+        x.stop(1, 0, -1, 0);
+        Due.is("20: back to the first one", x.leads(), 1);
+        x.set(3, 1000);
+        Due.is("18: the first one is first at the line between", x.at(0, 1, 0) < x.at(1, 1, 0), true);
+        Due.is("18: but not of the lap", x.led(1, 0), 1);
+        Due.is("20: no change", x.leads(), 0);
     }
 }

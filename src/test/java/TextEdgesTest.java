@@ -29,6 +29,7 @@ public final class TextEdgesTest {
         ends();
         signsOfAByte();
         tapeOfTwo();
+        behindWrongOnes();
         Due.close();
     }
 
@@ -410,5 +411,27 @@ public final class TextEdgesTest {
         Due.is("23: of nothing", x.rule(0), -1);
         Due.is("13: of nothing", x.plan(0), -1);
         Due.is("23: two rules", x.count(5), 2);
+    }
+
+    /** A wrong text leaves nothing behind that the next one would have: no operator, no number, no seconds. */
+    private static void behindWrongOnes() {
+        String[] wrong = {"!", "!!", "-!", "1&!", "0*", "0&", "(!", "((!(", "1-", "1:+9", "1:+99x", "1:X?", "0|0", "12", "1<2", "(1<2", "!".repeat(60), "(".repeat(60), "1<(".repeat(20)};
+        for (String text : wrong) {
+            RaceByLaps x = Due.plain(2, 2);
+            Due.aCar(x, 0, 0);
+            for (int time = 0; time < 3; time++) {
+                Due.plan(x, text, 0);
+                Due.rule(x, text.endsWith("9") ? text + "?" : text, 1);
+            }
+            Due.is("23: none of " + text, x.count(5), 0);
+            Due.is("23: a rule behind " + text, Due.rule(x, "1:+1", 0), 1);
+            Due.is("23: one that compares behind " + text, Due.rule(x, "1<2:+2", 0), 2);
+            Due.is("23: one that does not hold behind " + text, Due.rule(x, "0:+4", 0), 3);
+            Due.is("23: one that says X behind " + text, Due.rule(x, "1:X", 2), 4);
+            Due.is("25: seconds behind " + text, x.seconds(0, 0), 3);
+            Due.is("25: X behind " + text, x.seconds(0, 2), -2);
+            Due.is("13: a plan behind " + text, Due.plan(x, "1=2:-;1:+", 0), 1);
+            Due.is("13: as it says behind " + text, x.at(0, 1, 0), 60200);
+        }
     }
 }

@@ -27,6 +27,8 @@ public final class TriedEdgesTest {
         settleLast();
         settleFirst();
         settleOfNone();
+        bothClasses();
+        lastOfSix();
         allAsItWas();
         Due.close();
     }
@@ -499,5 +501,48 @@ public final class TriedEdgesTest {
         x.order(2, 1, 0, -1);
         x.result(0);
         return x;
+    }
+
+    /** PLACES are among all CARS, of whatever CLASS. */
+    private static void bothClasses() {
+        for (int clas = 0; clas < 2; clas++) {
+            RaceByLaps x = Due.plain(2, 3);
+            for (int k = 0; k < 3; k++) {
+                x.car(k == 2 ? -2000 : 0, 200, 1, k, k == 2 ? clas : 1 - clas, 200);
+                x.tyre(k, 0, 0);
+            }
+            x.stop(2, 0, -1, 0);
+            Due.is("26: as told", x.place(2, 0), 2);
+            Due.is("28: alone in its class", x.within(2, 0), 0);
+            Due.is("30: elsewhere it is no better", x.move(2, 0, 1, 0), 2);
+            Due.is("31: without it is", x.best(2, 0, 0), 0);
+            Due.is("31: with one it is not", x.best(2, 1, 0), 2);
+            Due.is("32: two places", x.gain(2, 0, 0), 2);
+            for (int k = 1; k < 3; k++) {
+                x.option(k, 0, 0);
+                x.option(k, -1, 0);
+            }
+            Due.is("35: both do without", x.settle(1, 2, 0), 11);
+        }
+    }
+
+    /** The last CAR, with a SUM that tells which try is better. */
+    private static void lastOfSix() {
+        RaceByLaps x = Due.plain(2, 12);
+        x.set(5, 0);
+        x.tyres(1, 0, 999);
+        for (int k = 0; k < 5; k++) x.car(0, 9, 1, 0, 0, 9);
+        Due.aCar(x, 0, 0);
+        for (int i = 0; i < 3; i++) x.tyre(5, 1, 0);
+        Due.rule(x, "k<2:X", 0);
+        Due.is("31: alone", x.best(5, 1, 0), 0);
+        row("31: the least sum", x, 10, 1);
+        x.tyre(4, 0, 0);
+        x.option(4, -1, 0);
+        x.option(5, -1, 0);
+        x.option(5, 9, 1);
+        x.option(5, 10, 1);
+        Due.is("35: the least sum", x.settle(4, 5, 0), 2);
+        Due.is("35: the other way round", x.settle(5, 4, 0), 20);
     }
 }
