@@ -25,6 +25,13 @@ final class Due {
         }
     }
 
+    /** Holds the whole ROW against the one that is due, and that there is no more of it. */
+    static void row(String what, RaceByLaps x, int... due) {
+        is(what + ", row", x.count(7), due.length);
+        for (int i = 0; i < due.length && i < x.count(7); i++) is(what + ", row " + i, x.row(i), due[i]);
+        raises(what + ", no more", () -> x.row(due.length));
+    }
+
     static void fail(String what) {
         wrong++;
         System.out.println(what);

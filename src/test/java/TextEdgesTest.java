@@ -134,9 +134,9 @@ public final class TextEdgesTest {
 
     /** "the first sign that can't stand there", though the text be too long. */
     private static void wrongAheadOfSixty() {
-        RaceByLaps x = Due.plain(2, 2);
-        Due.aCar(x, 0, 0);
         for (int place = 0; place < 100; place++) {
+            RaceByLaps x = Due.plain(2, 2);
+            Due.aCar(x, 0, 0);
             String rule = "(".repeat(place) + "?" + "(".repeat(99 - place);
             Due.is("23: wrong at " + place, Due.rule(x, rule, 0), -1 - Math.min(60, place));
             String plan = (":" + ".".repeat(99)).substring(0, place) + "?" + ".".repeat(99 - place);

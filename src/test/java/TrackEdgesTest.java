@@ -3,6 +3,7 @@ public final class TrackEdgesTest {
     private static final int MAX = Integer.MAX_VALUE;
 
     public static void main(String[] args) {
+        newObject();
         tracks();
         sectorsAnew();
         easeAtFirst();
@@ -26,7 +27,31 @@ public final class TrackEdgesTest {
         flags20();
         gaps();
         grids();
+        loads();
         Due.close();
+    }
+
+    /** "As told; no CARS": what each call answers where there is nothing yet. */
+    private static void newObject() {
+        RaceByLaps x = new RaceByLaps();
+        int[] none = {x.tyre(0, 0, 0), x.order(0, 0, 0, 0), x.stop(0, 0, -1, 0), x.drop(0, 0), x.at(0, 0, 0), x.led(0, 0), x.waited(0),
+            x.finding(0, 0, 0, 0), x.seconds(0, 0), x.place(0, 0), x.within(0, 0), x.move(0, 0, 0, 0), x.best(0, 0, 0), x.gain(0, 0, 0),
+            x.option(0, -1, 0), x.settle(0, 1, 0), x.known(0, 0, 0, 0), x.ahead(0, 1, 0, 0), x.wall(0, 0), x.why(0, 0)};
+        for (int i = 0; i < none.length; i++) Due.is("1: none, answer " + i, none[i], -1);
+        int[] nothing = {x.leads(), x.result(0), x.clear(), x.unplan(0) ? 1 : 0, x.end(1) ? 1 : 0, x.lost(1, true) ? 1 : 0};
+        for (int i = 0; i < nothing.length; i++) Due.is("1: nothing, answer " + i, nothing[i], 0);
+        Due.raises("1: of no car", () -> x.of(0, 0));
+        Due.raises("1: the sum of none", () -> x.sum(0, 0));
+        Due.raises("1: no row", () -> x.row(0));
+        Due.is("1: no text, no car", x.plan(0), -100);
+        Due.is("1: no text", x.rule(0), -1);
+        int[] counts = {2, 1, 0, 0, 0, 0, 0, 0, 0, 0};
+        for (int what = 0; what < 10; what++) Due.is("1: count " + what, x.count(what), counts[what]);
+        Due.is("1: two sectors", x.sector(1, 5000, 0), true);
+        Due.is("1: no third", x.sector(2, 5000, 0), false);
+        Due.is("1: rain in the second", x.rain(1, 0, 0), 1);
+        Due.is("1: none in a third", x.rain(2, 0, 0), -1);
+        Due.is("1: the first line may be lost", x.lost(0, true), true);
     }
 
     /** "s SECTORS (2 .. 5; at first 2) .. and n LAPS (1 .. 12; at first 1)". */
@@ -413,5 +438,23 @@ public final class TrackEdgesTest {
         Due.is("5: the least", x.set(6, 0), 2000);
         Due.is("5: all at once, the first", x.at(0, 0, 0), 20000);
         for (int k = 1; k < 6; k++) Due.is("5: the others pass one another, and are held by it", x.at(k, 0, 0), 20500);
+    }
+
+    /** "LOAD (0 .. 50)" times FUEL "as it is then": from 200 down to nothing. */
+    private static void loads() {
+        RaceByLaps x = Due.plain(2, 1);
+        x.car(0, 200, 9, 0, 0, 200);
+        x.tyre(0, 0, 0);
+        x.car(0, 200, 9, 1, 0, 18);
+        x.tyre(1, 0, 0);
+        Due.is("5: load 0", x.at(0, 0, 1), 40000);
+        Due.is("5: the most", x.set(1, 50), 0);
+        Due.is("5: 191 times 50", x.at(0, 0, 0), 20000 + 9550);
+        Due.is("5: 182 times 50", x.at(0, 0, 1), 29550 + 20000 + 9100);
+        Due.is("5: 9 times 50, and passes", x.at(1, 0, 0), 300 + 20450);
+        Due.is("5: nothing left", x.at(1, 0, 1), 20750 + 20000);
+        Due.is("5: too much", x.set(1, 51), -1);
+        Due.is("5: too little", x.set(1, -1), -1);
+        Due.is("5: as it was", x.at(0, 0, 0), 29550);
     }
 }

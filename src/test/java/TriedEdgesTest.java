@@ -33,12 +33,6 @@ public final class TriedEdgesTest {
         Due.close();
     }
 
-    private static void row(String what, RaceByLaps x, int... due) {
-        Due.is(what + ", row", x.count(7), due.length);
-        for (int i = 0; i < due.length && i < x.count(7); i++) Due.is(what + ", row " + i, x.row(i), due[i]);
-        Due.raises(what + ", no more", () -> x.row(due.length));
-    }
-
     /** A car with fuel for two laps, and a tank for two, that comes in behind the first. */
     private static RaceByLaps thirsty(int laps) {
         RaceByLaps x = Due.plain(2, laps);
@@ -129,7 +123,7 @@ public final class TriedEdgesTest {
             Due.is("31: no such day", x.best(5, 0, day), -1);
             Due.is("32: no such day", x.gain(5, 0, day), -1);
         }
-        row("31: the row stays", x, 0, 1, 2, 3, 4, 5);
+        Due.row("31: the row stays", x, 0, 1, 2, 3, 4, 5);
         for (int m = 0; m <= 2; m++) Due.is("31: the last car, m " + m, x.best(5, m, 99), 5);
     }
 
@@ -156,15 +150,15 @@ public final class TriedEdgesTest {
         RaceByLaps x = Due.plain(2, 2);
         Due.aCar(x, 0, 0);
         Due.is("31: one lap for it", x.best(0, 1, 0), 0);
-        row("31: the only way", x, 0, 0);
+        Due.row("31: the only way", x, 0, 0);
         Due.is("31: none for two", x.best(0, 2, 0), -1);
-        row("31: the row stays", x, 0, 0);
+        Due.row("31: the row stays", x, 0, 0);
         x.track(2, 3);
         Due.aCar(x, 0, 0);
         Due.is("31: two laps for them", x.best(0, 2, 0), 0);
-        row("31: the only way", x, 0, 0, 1, 0);
+        Due.row("31: the only way", x, 0, 0, 1, 0);
         Due.is("31: no stop", x.best(0, 0, 0), 0);
-        row("31: an empty row", x);
+        Due.row("31: an empty row", x);
     }
 
     /** Slower sets that have to be put on all the same: as late as can be, and of four the last two. */
@@ -179,7 +173,7 @@ public final class TriedEdgesTest {
             Due.rule(x, "k<2:X", 9);
             Due.is("31: one stop gives two kinds", x.best(0, 1, 0), -2);
             Due.is("31: two stops, three kinds", x.best(0, 2, 0), 0);
-            row("31: the last laps, the last sets", x, n - 3, 2, n - 2, 3);
+            Due.row("31: the last laps, the last sets", x, n - 3, 2, n - 2, 3);
         }
         RaceByLaps x = Due.plain(2, 12);
         x.set(5, 0);
@@ -188,7 +182,7 @@ public final class TriedEdgesTest {
         for (int i = 0; i < 3; i++) x.tyre(0, 1, 0);
         Due.rule(x, "k<2:X", 0);
         Due.is("31: one stop", x.best(0, 1, 0), 0);
-        row("31: the last lap, the first of three equal sets", x, 10, 1);
+        Due.row("31: the last lap, the first of three equal sets", x, 10, 1);
     }
 
     /** "Of equal ones the first: by the first LAP, the second one, the first SET, the second one". */
@@ -199,19 +193,19 @@ public final class TriedEdgesTest {
         Due.aCar(x, 0, 0);
         for (int set = 1; set < 4; set++) x.tyre(0, 0, 0);
         Due.is("31: all equal, two", x.best(0, 2, 0), 0);
-        row("31: the first", x, 0, 0, 1, 0);
+        Due.row("31: the first", x, 0, 0, 1, 0);
         Due.is("31: all equal, one", x.best(0, 1, 0), 0);
-        row("31: the first", x, 0, 0);
+        Due.row("31: the first", x, 0, 0);
         x.set(4, 1);
         Due.is("31: a change costs", x.best(0, 2, 0), 0);
-        row("31: none", x, 0, 0, 1, 0);
+        Due.row("31: none", x, 0, 0, 1, 0);
         Due.rule(x, "1:X", 5);
         Due.is("31: none has a place", x.best(0, 2, 5), -2);
-        row("31: the first", x, 0, 0, 1, 0);
+        Due.row("31: the first", x, 0, 0, 1, 0);
         Due.is("31: none has a place", x.best(0, 1, 5), -2);
-        row("31: the first", x, 0, 0);
+        Due.row("31: the first", x, 0, 0);
         Due.is("31: none has a place", x.best(0, 0, 5), -2);
-        row("31: no stop", x);
+        Due.row("31: no stop", x);
     }
 
     /**
@@ -230,13 +224,13 @@ public final class TriedEdgesTest {
         Due.aCar(x, 0, 0);
         x.tyre(0, 1, 0);
         Due.is("31: the second lap less, the first set more", x.best(0, 2, 0), 0);
-        row("31: laps ahead of sets", x, 0, 1, 1, 0);
+        Due.row("31: laps ahead of sets", x, 0, 1, 1, 0);
         Due.is("31: one stop", x.best(0, 1, 0), 0);
-        row("31: set 1 for the last lap alone", x, 2, 1);
+        Due.row("31: set 1 for the last lap alone", x, 2, 1);
         x.tyres(1, 2, 4);
         x.tyres(0, 2, 4);
         Due.is("31: four sectors each", x.best(0, 2, 0), 0);
-        row("31: the first set less", x, 0, 0, 1, 1);
+        Due.row("31: the first set less", x, 0, 0, 1, 1);
     }
 
     /** "the least PLACE (none behind all), then the least SUM". */
@@ -250,10 +244,10 @@ public final class TriedEdgesTest {
         x.tyre(0, 1, 0);
         x.tyres(0, 5, 100);
         Due.is("31: it is alone", x.best(0, 1, 0), 0);
-        row("31: the sum tells", x, 1, 1);
+        Due.row("31: the sum tells", x, 1, 1);
         Due.rule(x, "k=2:X", 1);
         Due.is("31: a place is better than a sum", x.best(0, 1, 1), 0);
-        row("31: no second kind", x, 0, 0);
+        Due.row("31: no second kind", x, 0, 0);
         Due.rule(x, "s:X", 2);
         Due.is("31: none at all", x.best(0, 1, 2), -2);
         Due.is("31: but without", x.best(0, 0, 2), 0);
@@ -267,7 +261,7 @@ public final class TriedEdgesTest {
             x.tyre(0, 0, 0);
             Due.rule(x, "f<" + enough + ":X", 0);
             Due.is("31: 200 less 22 times 9 is 2", x.best(0, 1, 0), enough == 2 ? 0 : -2);
-            row("31: it has to come at once", x, 0, 0);
+            Due.row("31: it has to come at once", x, 0, 0);
             Due.is("31: none can do without", x.best(0, 0, 0), -2);
         }
         RaceByLaps x = Due.plain(2, 12);
@@ -308,7 +302,7 @@ public final class TriedEdgesTest {
         x.stop(0, 0, -1, 0);
         Due.is("30: none", x.move(0, 0, 1, 50), -2);
         Due.is("35: one without options", x.settle(0, 1, 50), -1);
-        row("30: the row stays", x, 0, 1, 2, 3, 4, 5);
+        Due.row("30: the row stays", x, 0, 1, 2, 3, 4, 5);
     }
 
     /** "how many PLACES it would be better than as told (0 at least)". */
@@ -536,7 +530,7 @@ public final class TriedEdgesTest {
         for (int i = 0; i < 3; i++) x.tyre(5, 1, 0);
         Due.rule(x, "k<2:X", 0);
         Due.is("31: alone", x.best(5, 1, 0), 0);
-        row("31: the least sum", x, 10, 1);
+        Due.row("31: the least sum", x, 10, 1);
         x.tyre(4, 0, 0);
         x.option(4, -1, 0);
         x.option(5, -1, 0);

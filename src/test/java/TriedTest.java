@@ -17,14 +17,6 @@ public final class TriedTest {
         Due.close();
     }
 
-    private static void row(String what, RaceByLaps x, int... due) {
-        Due.is(what + ", row", x.count(7), due.length);
-        for (int i = 0; i < due.length; i++) {
-            int at = i;
-            if (i < x.count(7)) Due.is(what + ", row " + i, x.row(at), due[i]);
-        }
-    }
-
     /** Tyres that fall by 5000 from age 2 on: the sooner they are changed, the better. */
     private static RaceByLaps falling(int laps) {
         RaceByLaps x = Due.plain(2, laps);
@@ -86,9 +78,9 @@ public final class TriedTest {
         x.tyre(0, 1, 0);
         Due.is("31: 20000 lost as told", x.sum(0, 0), 140000);
         Due.is("31: the first place", x.best(0, 1, 0), 0);
-        row("31: one stop, behind lap 0 as good as behind lap 1", x, 0, 1);
+        Due.row("31: one stop, behind lap 0 as good as behind lap 1", x, 0, 1);
         Due.is("31: none", x.best(0, 0, 0), 0);
-        row("31: none", x);
+        Due.row("31: none", x);
         Due.is("31: all is as it was", x.sum(0, 0), 140000);
         Due.is("31: all is as it was", x.of(0, 3), 0);
         x.stop(0, 0, 1, 0);
@@ -98,7 +90,7 @@ public final class TriedTest {
         int[][] others = {{-1, 0, 0}, {1, 0, 0}, {0, -1, 0}, {0, 3, 0}, {0, 0, -1}, {0, 0, 100}};
         x.result(0);
         for (int[] o : others) Due.is("31: others", x.best(o[0], o[1], o[2]), -1);
-        row("31: the row stays", x, 0);
+        Due.row("31: the row stays", x, 0);
         x.track(2, 1);
         Due.aCar(x, 0, 0);
         Due.is("31: one lap: no stop", x.best(0, 1, 0), -1);
@@ -106,7 +98,7 @@ public final class TriedTest {
         x.track(2, 2);
         Due.aCar(x, 0, 0);
         Due.is("31: two laps: one stop", x.best(0, 1, 0), 0);
-        row("31: two laps: one stop", x, 0, 0);
+        Due.row("31: two laps: one stop", x, 0, 0);
         Due.is("31: two laps: no two stops", x.best(0, 2, 0), -1);
     }
 
@@ -116,18 +108,18 @@ public final class TriedTest {
         x.tyre(0, 1, 0);
         x.tyre(0, 1, 0);
         Due.is("31: two stops", x.best(0, 2, 0), 0);
-        row("31: two stops", x, 0, 1, 1, 2);
+        Due.row("31: two stops", x, 0, 1, 1, 2);
         x.set(3, 60000);
         x.set(4, 20000);
         Due.is("31: two stops, dear ones", x.best(0, 2, 0), 0);
-        row("31: a change costs more than it brings", x, 0, 0, 1, 0);
+        Due.row("31: a change costs more than it brings", x, 0, 0, 1, 0);
         x.set(3, 0);
         x.set(4, 10001);
         Due.is("31: a fall for two sectors is 10000", x.best(0, 1, 0), 0);
-        row("31: three sectors with them are not worth one of 10001", x, 0, 0);
+        Due.row("31: three sectors with them are not worth one of 10001", x, 0, 0);
         x.set(4, 9999);
         Due.is("31: now it is", x.best(0, 1, 0), 0);
-        row("31: now it is", x, 0, 1);
+        Due.row("31: now it is", x, 0, 1);
     }
 
     private static void bestOfEqualOnes() {
@@ -137,21 +129,21 @@ public final class TriedTest {
         x.tyre(0, 0, 0);
         x.tyre(0, 0, 0);
         Due.is("31: all are equal", x.best(0, 2, 0), 0);
-        row("31: the first", x, 0, 0, 1, 0);
+        Due.row("31: the first", x, 0, 0, 1, 0);
         Due.is("31: all are equal", x.best(0, 1, 0), 0);
-        row("31: the first", x, 0, 0);
+        Due.row("31: the first", x, 0, 0);
         x.tyres(1, 0, 100);
         RaceByLaps y = Due.plain(2, 5);
         y.car(0, 6, 1, 0, 0, 6);
         y.tyre(0, 0, 0);
         y.set(5, 0);
         Due.is("31: fuel for 3 laps, the tank for 3", y.best(0, 1, 0), 0);
-        row("31: the first lap that will do", y, 1, 0);
+        Due.row("31: the first lap that will do", y, 1, 0);
         RaceByLaps z = Due.plain(2, 5);
         z.car(0, 4, 1, 0, 0, 2);
         z.tyre(0, 0, 0);
         Due.is("31: fuel for 1 lap, the tank for 2", z.best(0, 2, 0), 0);
-        row("31: the only way", z, 0, 0, 2, 0);
+        Due.row("31: the only way", z, 0, 0, 2, 0);
     }
 
     private static void bestWithoutPlace() {
@@ -159,19 +151,19 @@ public final class TriedTest {
         x.car(0, 200, 1, 0, 0, 200);
         x.result(0);
         Due.is("31: out", x.best(0, 0, 0), -2);
-        row("31: with its row", x);
+        Due.row("31: with its row", x);
         x.tyre(0, 0, 0);
         Due.rule(x, "1:X", 0);
         Due.is("31: X", x.best(0, 2, 0), -2);
-        row("31: the first of all", x, 0, 0, 1, 0);
+        Due.row("31: the first of all", x, 0, 0, 1, 0);
         RaceByLaps y = Due.plain(2, 4);
         Due.aCar(y, 0, 0);
         y.tyre(0, 1, 0);
         Due.rule(y, "k<2:X", 3);
         Due.is("31: by that day", y.best(0, 1, 2), 0);
-        row("31: no need to change", y, 0, 0);
+        Due.row("31: no need to change", y, 0, 0);
         Due.is("31: by that day", y.best(0, 1, 3), 0);
-        row("31: a place is better than none", y, 0, 1);
+        Due.row("31: a place is better than none", y, 0, 1);
     }
 
     private static void bestWithoutPlan() {
@@ -205,7 +197,7 @@ public final class TriedTest {
         Due.is("32: from 4 to 3", x.gain(2, 1, 2), 2);
         x.result(0);
         Due.is("32: the row stays", x.gain(1, 2, 0), 0);
-        row("32: the row stays", x, 0, 2, 3, 1);
+        Due.row("32: the row stays", x, 0, 2, 3, 1);
         int[][] others = {{-1, 0, 0}, {4, 0, 0}, {0, -1, 0}, {0, 3, 0}, {0, 0, -1}, {0, 0, 100}};
         for (int[] o : others) Due.is("32: others", x.gain(o[0], o[1], o[2]), -1);
         x.car(0, 9, 1, 0, 0, 9);
