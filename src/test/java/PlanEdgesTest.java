@@ -10,6 +10,7 @@ public final class PlanEdgesTest {
         stopInPlace();
         modes();
         actsOfTheLineBefore();
+        linesOfThePlanBefore();
         fewerLaps();
         fuelAndToGo();
         setOn();
@@ -201,6 +202,24 @@ public final class PlanEdgesTest {
                 Due.is("13: of " + text, x.at(1, 1, 0), 60500);
                 Due.is("13: no stop of " + text, x.of(1, 3), 0);
                 Due.is("13: no offence of " + text, x.of(1, 5), 0);
+            }
+        }
+    }
+
+    /** Nor does one with fewer lines leave the others: where none of its own is true, none is done. */
+    private static void linesOfThePlanBefore() {
+        RaceByLaps x = Due.plain(2, 2);
+        Due.aCar(x, 0, 0);
+        String[] before = {"0:.;:-b0", "0:.;1:-;:-", "0:.;!0:-b0", ":-b0;:-", "0:.;0:.;:-b0;:-"};
+        String[] after = {"0:+", "0:+;0:+", "!1:+b0"};
+        for (String text : before) {
+            for (String none : after) {
+                for (int time = 0; time < 2; time++) {
+                    Due.is("13: " + text, Due.plan(x, text, 0), 1);
+                    for (int again = 0; again <= time; again++) Due.is("13: " + none, Due.plan(x, none, 0), 1);
+                    Due.is("40: none of " + none + " behind " + text, x.why(0, 0), -1);
+                    Due.is("13: nothing of " + text, x.at(0, 1, 0), 60000);
+                }
             }
         }
     }

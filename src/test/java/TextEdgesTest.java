@@ -415,7 +415,8 @@ public final class TextEdgesTest {
 
     /** A wrong text leaves nothing behind that the next one would have: no operator, no number, no seconds. */
     private static void behindWrongOnes() {
-        String[] wrong = {"!", "!!", "-!", "1&!", "0*", "0&", "(!", "((!(", "1-", "1:+9", "1:+99x", "1:X?", "0|0", "12", "1<2", "(1<2", "!".repeat(60), "(".repeat(60), "1<(".repeat(20)};
+        String[] wrong = {"!", "!!", "-!", "1&!", "0*", "0&", "(!", "((!(", "1-", "1:+9", "1:+99x", "1:X?", "0|0", "12", "1<2", "(1<2", "!".repeat(60), "(".repeat(60), "1<(".repeat(20),
+            "!1:?", "-!1:", "0&1:?", "1-1:", "!(1|0):?"};
         for (String text : wrong) {
             RaceByLaps x = Due.plain(2, 2);
             Due.aCar(x, 0, 0);
