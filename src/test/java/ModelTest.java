@@ -16,6 +16,7 @@ public final class ModelTest {
     private final StringBuilder told = new StringBuilder();
     private int calls = 0;
     private boolean off = false;
+    private int grain = 1;
 
     private ModelTest(int seed) {
         this.seed = seed;
@@ -59,8 +60,14 @@ public final class ModelTest {
 
     /** Mostly within from .. to, now and then just outside or far off. */
     private int about(int from, int to) {
-        if (!one(25)) return one(6) ? pick(from, to) : r(from, to);
+        if (!one(25)) return one(6) ? pick(from, to) : to - from > 250 ? rounded(from, to) : r(from, to);
         return pick(from - 1, to + 1, -1, Integer.MIN_VALUE, Integer.MAX_VALUE);
+    }
+
+    /** In round numbers many TIMES are equal. */
+    private int rounded(int from, int to) {
+        int v = r(from, to);
+        return Math.max(from, v - Math.floorMod(v, grain));
     }
 
     private int aCar() { return about(0, Math.max(0, m.cars.size() - 1)); }
@@ -71,13 +78,17 @@ public final class ModelTest {
 
     private int aDay() { return one(4) ? about(0, 99) : r(0, 4); }
 
-    private int aTime() { return one(20) ? about(0, Integer.MAX_VALUE - 1) : r(0, 20000 * m.s * m.n * 6 / 5); }
+    private int aTime() { return one(20) ? about(0, Integer.MAX_VALUE - 1) : rounded(0, 20000 * m.s * m.n * 6 / 5); }
 
     private void run() {
         boolean tight = one(2);
+        if (one(2)) {
+            grain = pick(100, 500, 1000);
+            inRoundNumbers();
+        }
         int laps = one(3) ? r(5, 12) : r(1, 5);
         if (!one(30)) track(r(2, 5), laps);
-        for (int i = 0; i < m.s; i++) if (one(2)) sector(i, tight ? r(5000, 9000) : r(5000, 60000), one(4) ? -1 : r(0, one(2) ? 300 : 5000));
+        for (int i = 0; i < m.s; i++) if (one(2)) sector(i, rounded(5000, tight ? 9000 : 60000), one(4) ? -1 : r(0, one(2) ? 300 : 5000));
         for (int i = 0; i < 4; i++) if (one(2)) numbers();
         for (int i = r(0, 8); i > 0; i--) tyres();
         for (int i = r(1, 6); i > 0; i--) aNewCar(tight);
@@ -92,6 +103,17 @@ public final class ModelTest {
         }
     }
 
+    /** Without LOAD, WEAR and MISS no TIME is less round than what is told. */
+    private void inRoundNumbers() {
+        set(1, 0);
+        set(6, pick(0, 0, 100, 500));
+        if (one(2)) set(3, 0);
+        for (int kind = 0; kind < 4; kind++) {
+            tyres(kind, 1, 0);
+            tyres(kind, 5, 0);
+        }
+    }
+
     private void track(int s, int n) {
         same("track(" + s + ", " + n + ")", () -> x.track(s, n), () -> m.track(s, n));
     }
@@ -103,14 +125,20 @@ public final class ModelTest {
     private void numbers() {
         int[] most = {2000, 50, 500, 60000, 20000, 200, 2000, 9};
         int what = about(0, 7);
-        int v = Model.in(what, 0, 7) ? about(what == 0 ? 100 : 0, one(2) ? most[what] : Math.max(most[what] / 10, 9)) : 1;
+        set(what, Model.in(what, 0, 7) ? about(what == 0 ? 100 : 0, one(2) ? most[what] : Math.max(most[what] / 10, 9)) : 1);
+    }
+
+    private void set(int what, int v) {
         same("set(" + what + ", " + v + ")", () -> x.set(what, v), () -> m.set(what, v));
     }
 
     private void tyres() {
         int[] most = {3000, 100, 200, 5000, 100, 100};
         int kind = about(0, 3), what = about(0, 5);
-        int v = Model.in(what, 0, 5) ? about(0, one(2) ? most[what] : most[what] / 10) : 1;
+        tyres(kind, what, Model.in(what, 0, 5) ? about(0, one(2) ? most[what] : most[what] / 10) : 1);
+    }
+
+    private void tyres(int kind, int what, int v) {
         same("tyres(" + kind + ", " + what + ", " + v + ")", () -> x.tyres(kind, what, v), () -> m.tyres(kind, what, v));
     }
 
